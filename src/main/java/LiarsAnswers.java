@@ -339,7 +339,7 @@ public final class LiarsAnswers {
     }
 
     private boolean playOne(int at, int word) {
-        boolean yes = (word >> at & 1) == 1;
+        boolean yes = ((word >> at) & 1) == 1;
         return game.reply(game.within(code.question(at)), yes) > 0;
     }
 
@@ -449,7 +449,7 @@ public final class LiarsAnswers {
         int standingIn(int heap) {
             int count = 0;
             for (int number = 0; number < n; number++) {
-                if ((heap >> number & 1) == 1 && leftOf(number) != OUT) {
+                if (((heap >> number) & 1) == 1 && leftOf(number) != OUT) {
                     count++;
                 }
             }
@@ -483,7 +483,7 @@ public final class LiarsAnswers {
             int behind = rowBehind();
             int standing = 0;
             for (int number = 0; number < n; number++) {
-                int still = Math.max(OUT, leftOf(number) - priceFor((heap >> number & 1) == 1, yes));
+                int still = Math.max(OUT, leftOf(number) - priceFor(((heap >> number) & 1) == 1, yes));
                 lefts[behind + number] = still;
                 if (still != OUT) {
                     standing++;
@@ -781,7 +781,7 @@ public final class LiarsAnswers {
             int gap = lowestGap(row);
             if (row > gap) {
                 // One that is OUT plays no part: the NUMBERS on both sides of it are neighbours.
-                return fewAt(row & (gap - 1) | row >> 2 & -gap);
+                return fewAt((row & (gap - 1)) | ((row >> 2) & -gap));
             }
             // gap is 4 to the power of how many NUMBERS there are
             return gap <= 4 ? 0 : leastQuestions(row, gap);
@@ -844,7 +844,7 @@ public final class LiarsAnswers {
             }
             questions[size] = heap;
             for (int number = 0; number < MOST_NUMBERS; number++) {
-                words[number] |= (heap >> number & 1) << size;
+                words[number] |= ((heap >> number) & 1) << size;
             }
             size++;
             return true;
