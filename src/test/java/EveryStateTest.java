@@ -1,4 +1,4 @@
-/** FEWEST, FEWEST BY SPANS, THE BEST heap and WEIGHT of every STATE that a GAME can come to, not of some. */
+/** FEWEST of every STATE; spans, THE BEST heap and the bound by WEIGHT for every row of few NUMBERS. */
 public final class EveryStateTest {
     private static final int MOST_CALLS = 512;
 
