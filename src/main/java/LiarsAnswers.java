@@ -784,23 +784,28 @@ public final class LiarsAnswers {
                 return fewAt((row & (gap - 1)) | ((row >> 2) & -gap));
             }
             // gap is 4 to the power of how many NUMBERS there are
-            return gap <= 4 ? 0 : leastQuestions(row, gap);
+            int numbers = Integer.bitCount(gap - 1) / 2;
+            return numbers <= 1 ? 0 : leastQuestions(row, numbers);
         }
 
-        private int leastQuestions(int row, int end) {
+        private int leastQuestions(int row, int numbers) {
             int floor = 1;
-            for (int digit = 1; digit < end; digit <<= 2) {
-                floor = Math.max(floor, fewAt(row - digit));
+            for (int number = 0; number < numbers; number++) {
+                floor = Math.max(floor, fewAt(row - digitOne(number)));
             }
             int least = ABOVE;
-            for (int first = 1; first < end && least >= floor; first <<= 2) {
+            for (int first = 0; first < numbers && least >= floor; first++) {
                 int span = 0;
-                for (int last = first; last < end && least >= floor; last <<= 2) {
-                    span |= last;
+                for (int last = first; last < numbers && least >= floor; last++) {
+                    span |= digitOne(last);
                     least = Math.min(least, greaterBehind(row, span));
                 }
             }
             return Math.min(ABOVE, least + 1);
+        }
+
+        private static int digitOne(int number) {
+            return 1 << (2 * number);
         }
 
         private int greaterBehind(int row, int span) {

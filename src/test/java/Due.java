@@ -22,6 +22,10 @@ final class Due {
         is(what, holds ? 1 : 0, 1);
     }
 
+    int asked() {
+        return asked;
+    }
+
     int wrong() {
         return wrong;
     }

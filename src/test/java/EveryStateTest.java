@@ -1,13 +1,13 @@
 /** FEWEST of every STATE; spans, THE BEST heap and the bound by WEIGHT for every row of few NUMBERS. */
 public final class EveryStateTest {
-    private static final int MOST_CALLS = 512;
+    /** What one row may take. */
+    private static final int MOST_A_ROW = 20;
 
     private final Due due = new Due("EveryStateTest");
     private final int kind;
     private final int n;
     private final int e;
-    private LiarsAnswers x = null;
-    private int calls = 0;
+    private Asked x = new Asked();
 
     private EveryStateTest(int kind, int n, int e) {
         this.kind = kind;
@@ -31,7 +31,7 @@ public final class EveryStateTest {
 
     /** From few NUMBERS to many and back, so that an object has to learn more, and to know less again. */
     private static void everyBegin(int kind, Due due) {
-        LiarsAnswers x = new LiarsAnswers();
+        Asked x = new Asked();
         for (int pass = 0; pass < 2; pass++) {
             for (int k = 0; k < 64; k++) {
                 int n = pass == 0 ? 1 + k / 4 : 16 - k / 4;
@@ -88,9 +88,8 @@ public final class EveryStateTest {
 
     /** By answers of yes alone: each takes one off LEFT of those that are not in its heap, or puts them OUT. */
     private void comeTo(int[] lefts) {
-        if (x == null || calls + 20 > MOST_CALLS) {
-            x = new LiarsAnswers();
-            calls = 0;
+        if (x.calls() + MOST_A_ROW > Asked.MOST_CALLS) {
+            x = new Asked();
         }
         x.begin(kind, n, e);
         for (int off = 1; off <= e + 1; off++) {
@@ -107,7 +106,6 @@ public final class EveryStateTest {
             int want = i;
             due.is("state(" + i + ")", x.state(i), java.util.Arrays.stream(lefts).filter(left -> left == want).count());
         }
-        calls += 1 + 2 * (e + 1) + 4 + 4;
     }
 
     private void fewest(int[] lefts) {

@@ -2,10 +2,12 @@
 public final class RandomRunsTest {
     private static final int RUNS = 1500;
     private static final int CALLS = 300;
+    /** What one turn may take: tell() looks at all that told() tells. */
+    private static final int MOST_A_TURN = 11;
 
     private final Due due = new Due("RandomRunsTest");
     private long seed;
-    private LiarsAnswers x;
+    private Asked x;
     private NaiveLiar y;
     private int bestTold;
 
@@ -38,11 +40,11 @@ public final class RandomRunsTest {
 
     private void run(int run) {
         seed = run * 7919L + 17;
-        x = new LiarsAnswers();
+        x = new Asked();
         y = new NaiveLiar();
         bestTold = 0;
         int calls = below(CALLS) + 20;
-        for (int k = 0; k < calls; k++) {
+        for (int k = 0; k < calls && x.calls() + MOST_A_TURN <= Asked.MOST_CALLS; k++) {
             call("run " + run + " call " + k + " ");
         }
     }
