@@ -1,7 +1,5 @@
 import java.io.IOException;
 import java.lang.reflect.Method;
-import java.nio.file.Files;
-import java.nio.file.Path;
 import java.util.ArrayList;
 import java.util.List;
 import java.util.regex.Pattern;
@@ -54,8 +52,7 @@ public final class BoundaryCoverageTest {
 
     /** [0] is what stands ahead of promise 1, without the face; then each promise behind its signature. */
     private static String[] sections() throws IOException {
-        String home = System.getenv("LIARS_ANSWERS_HOME");
-        String doc = Files.readString(Path.of(home == null ? "." : home, "../shared/DOC.md"));
+        String doc = Home.read("../shared/DOC.md");
         String[] sections = new String[PROMISES + 1];
         sections[0] = between(doc, "## What it is", "## The public face") + between(doc, "## Terms", "## Promise 1:");
         for (int promise = 1; promise <= PROMISES; promise++) {

@@ -5,8 +5,6 @@ import java.lang.reflect.Constructor;
 import java.lang.reflect.Field;
 import java.lang.reflect.Method;
 import java.lang.reflect.Modifier;
-import java.nio.file.Files;
-import java.nio.file.Path;
 import java.util.Arrays;
 import java.util.List;
 import java.util.Set;
@@ -31,12 +29,23 @@ public final class FaceTest {
     private static final Due DUE = new Due("FaceTest");
 
     public static void main(String[] args) throws IOException {
+        documentsFace();
         face();
         constants();
         insideClasses();
         source();
         room();
         DUE.end();
+    }
+
+    /** METHODS are those of the document, as it stands now. */
+    private static void documentsFace() throws IOException {
+        Matcher told = Pattern.compile("(?m)^    public (int|long) (\\w+)\\((.*)\\);$").matcher(Home.read("../shared/DOC.md"));
+        Set<String> seen = new TreeSet<>();
+        while (told.find()) {
+            seen.add(told.group(1) + " " + told.group(2) + "(" + told.group(3).replaceAll("(int|boolean) \\w+", "$1") + ")");
+        }
+        DUE.holds("the methods looked for are the document's: " + seen, seen.equals(METHODS));
     }
 
     private static void face() {
@@ -94,9 +103,7 @@ public final class FaceTest {
     }
 
     private static void source() throws IOException {
-        String home = System.getenv("LIARS_ANSWERS_HOME");
-        Path file = Path.of(home == null ? "." : home, "src/main/java/LiarsAnswers.java");
-        String text = Files.readString(file).replaceAll("(?s)/\\*.*?\\*/", "").replaceAll("//[^\n]*", "");
+        String text = Home.read("src/main/java/LiarsAnswers.java").replaceAll("(?s)/\\*.*?\\*/", "").replaceAll("//[^\n]*", "");
         for (String word : FORBIDDEN) {
             DUE.holds("the source is without " + word, !Pattern.compile(word).matcher(text).find());
         }
