@@ -10,8 +10,8 @@ import java.util.Map;
  */
 final class NaiveLiar {
     private static final int FAR = 1000;
-    /** FEWEST of STATES does not change, so all objects may share what was reckoned. */
-    private static final Map<String, Integer> HEAPS = new HashMap<>();
+    /** FEWEST of STATES does not change, so all objects may share what was reckoned: by KIND and how many have each LEFT. */
+    private static final Map<Integer, Integer> HEAPS = new HashMap<>();
     private static final Map<String, Integer> SPANS = new HashMap<>();
 
     private boolean on = false;
@@ -65,16 +65,27 @@ final class NaiveLiar {
     // ---- FEWEST
 
     static int fewestOf(int kind, int[] lefts) {
-        int[] row = standing(lefts);
-        Arrays.sort(row);
-        if (row.length <= 1) {
+        int key = kind;
+        int standing = 0;
+        for (int left : lefts) {
+            if (left >= 0) {
+                key += 4 << (5 * left);
+                standing++;
+            }
+        }
+        if (standing <= 1) {
             return 0;
         }
-        String key = kind + Arrays.toString(row);
         Integer known = HEAPS.get(key);
-        if (known != null) {
-            return known;
+        if (known == null) {
+            known = leastBehind(kind, standing(lefts));
+            HEAPS.put(key, known);
         }
+        return known;
+    }
+
+    private static int leastBehind(int kind, int[] row) {
+        Arrays.sort(row);
         int least = FAR;
         for (int heap : heapsOf(row)) {
             int[] yes = standing(after(kind, row, heap, true));
@@ -85,7 +96,6 @@ final class NaiveLiar {
                 least = Math.min(least, 1 + Math.max(fewestOf(kind, yes), fewestOf(kind, no)));
             }
         }
-        HEAPS.put(key, least);
         return least;
     }
 

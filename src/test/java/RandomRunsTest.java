@@ -9,7 +9,6 @@ public final class RandomRunsTest {
     private long seed;
     private Asked x;
     private NaiveLiar y;
-    private int bestTold;
 
     public static void main(String[] args) {
         RandomRunsTest test = new RandomRunsTest();
@@ -42,7 +41,6 @@ public final class RandomRunsTest {
         seed = run * 7919L + 17;
         x = new Asked();
         y = new NaiveLiar();
-        bestTold = 0;
         int calls = below(CALLS) + 20;
         for (int k = 0; k < calls && x.calls() + MOST_A_TURN <= Asked.MOST_CALLS; k++) {
             call("run " + run + " call " + k + " ");
@@ -60,7 +58,7 @@ public final class RandomRunsTest {
             case 12: due.is(at + "fewest()", x.fewest(), y.fewest()); break;
             case 13: due.is(at + "spans()", x.spans(), y.spans()); break;
             case 14: { int q = about(0, 20); due.is(at + "weight(" + q + ")", x.weight(q), y.weight(q)); break; }
-            case 15: best(at); break;
+            case 15: due.is(at + "best()", x.best(), y.best()); break;
             case 16: due.is(at + "worse()", x.worse(), y.worse()); break;
             case 17: case 18: { int heap = about(0, 65535); due.is(at + "set(" + heap + ")", x.set(heap), y.set(heap)); break; }
             case 19: if (below(3) == 0) { due.is(at + "drop()", x.drop(), y.drop()); } break;
@@ -102,14 +100,6 @@ public final class RandomRunsTest {
         due.is(at + "left(" + number + ")", x.left(number), y.left(number));
         due.is(at + "state(" + i + ")", x.state(i), y.state(i));
         due.is(at + "found()", x.found(), y.found());
-    }
-
-    /** All heaps of many NUMBERS take the plain retelling long, so it is asked for those seldom. */
-    private void best(String at) {
-        if (y.told(2) <= 10 || bestTold == 0 && below(6) == 0) {
-            bestTold += y.told(2) > 10 ? 1 : 0;
-            due.is(at + "best()", x.best(), y.best());
-        }
     }
 
     private void words(String at) {
